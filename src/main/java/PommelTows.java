@@ -121,10 +121,10 @@ public final class PommelTows {
         if (!now.runs.has(run)) {
             throw new IndexOutOfBoundsException("no such run");
         }
-        if (!now.runs.hasTooMuchSnow(run)) {
+        int before = now.runs.depth[run];
+        if (before * now.runs.slope[run] < TOO_MUCH_SNOW) {
             throw new IllegalStateException("not too much snow lies on the run");
         }
-        int before = now.runs.depth[run];
         now.runs.depth[run] = before / 2;
         return before - now.runs.depth[run];
     }
@@ -274,7 +274,7 @@ public final class PommelTows {
         trial.copyFrom(now);
         int before = now.skiers.rides[skier];
         for (int hours = 1; hours <= MOST_UNTIL_HOURS; hours++) {
-            trial.letHourGo();
+            trial.letHoursGo(1);
             if (trial.skiers.rides[skier] > before) {
                 return hours;
             }
@@ -322,7 +322,7 @@ public final class PommelTows {
     /** Returns the mean of the points of all skiers, 0 without any. */
     public double mean() {
         if (now.skiers.count <= 0) {
-            return 0;
+            return 0.0;
         }
         return (double) now.skiers.allPoints() / now.skiers.count;
     }
@@ -425,12 +425,8 @@ public final class PommelTows {
             }
         }
 
-        boolean hasTooMuchSnow(int run) {
-            return depth[run] * slope[run] >= TOO_MUCH_SNOW;
-        }
-
         boolean isOpen(int run) {
-            return depth[run] >= OPEN_DEPTH && !hasTooMuchSnow(run);
+            return depth[run] >= OPEN_DEPTH && depth[run] * slope[run] < TOO_MUCH_SNOW;
         }
 
         /** The steepest open run of a tow up to a slope, NONE if there is none. */
@@ -671,23 +667,16 @@ public final class PommelTows {
         int letHoursGo(int hours) {
             int rides = 0;
             for (int i = 0; i < hours; i++) {
-                rides += letHourGo();
+                runs.deepenAll(snowOf(flakeOfHour()));
+                for (int tow = 0; tow < TOWS; tow++) {
+                    rides += pullAt(tow);
+                }
+                hour++;
             }
             return rides;
         }
 
-        /** Returns how many rides there are. */
-        int letHourGo() {
-            runs.deepenAll(snowOf(flakeOfHour()));
-            int rides = 0;
-            for (int tow = 0; tow < TOWS; tow++) {
-                rides += pullAt(tow);
-            }
-            hour++;
-            return rides;
-        }
-
-        /** The turn of a tow; returns how many it pulls. */
+        /** The turn of a tow in an hour; returns how many it pulls. */
         int pullAt(int tow) {
             int rides = 0;
             // who comes to the end in this turn stands behind these, and is not looked at again
@@ -699,26 +688,23 @@ public final class PommelTows {
                 }
                 skiers.takeOutOfQueue(skier);
                 if (skiers.coins[skier] >= RIDE_COINS) {
-                    pull(skier, tow);
+                    skiers.coins[skier] -= RIDE_COINS;
+                    coins += RIDE_COINS;
+                    skiers.rides[skier]++;
                     rides++;
+                    skiDown(skier, tow);
+                    skiers.putAtEnd(skier, tow);
                 }
             }
             pulled[tow] += rides;
             return rides;
         }
 
-        void pull(int skier, int tow) {
-            skiers.coins[skier] -= RIDE_COINS;
-            coins += RIDE_COINS;
-            skiers.rides[skier]++;
+        void skiDown(int skier, int tow) {
             int run = chosenRun(skier, tow);
-            if (runs.has(run)) {
-                skiDown(skier, run);
+            if (!runs.has(run)) {
+                return;
             }
-            skiers.putAtEnd(skier, tow);
-        }
-
-        void skiDown(int skier, int run) {
             int glide = skiers.glide(skier, flakeOfHour());
             skiers.addPoints(skier, 3 * runs.slope[run] + skiers.skill[skier] + glide);
             runs.deepen(run, -1);
