@@ -410,7 +410,6 @@ public final class PommelTows {
             tow[run] = itsTow;
             slope[run] = itsSlope;
             depth[run] = FIRST_DEPTH;
-            skied[run] = 0;
             count++;
             return run;
         }
@@ -506,12 +505,7 @@ public final class PommelTows {
             int skier = count;
             skill[skier] = itsSkill;
             coins[skier] = itsCoins;
-            wax[skier] = NONE;
-            layer[skier] = 0;
-            points[skier] = 0;
-            rides[skier] = 0;
             tow[skier] = NONE;
-            place[skier] = NONE;
             count++;
             return skier;
         }
@@ -558,7 +552,6 @@ public final class PommelTows {
                 return;
             }
             tow[leaver] = NONE;
-            place[leaver] = NONE;
             for (int skier = 0; skier < count; skier++) {
                 if (tow[skier] == oldTow && place[skier] > oldPlace) {
                     place[skier]--;

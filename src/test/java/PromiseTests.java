@@ -38,6 +38,7 @@ public final class PromiseTests {
         mean();
         digest();
         objectsStandAlone();
+        fullVillage();
         Check.end("PromiseTests");
     }
 
@@ -636,6 +637,11 @@ public final class PromiseTests {
         Check.same("pass: a layer of 1 counts", x.told(0, 4), 80);
         x.pass(1);
         Check.same("pass: a layer of 0 does not", x.told(0, 4), 80);
+        PommelTows z = new PommelTows();
+        z.run(0, 1);
+        standing(z, 1, 60, 0);
+        z.pass(2);
+        Check.same("pass: the fewest points", z.told(0, 4), 0);
         PommelTows y = new PommelTows();
         y.run(2, 9);
         y.run(2, 9);
@@ -941,6 +947,33 @@ public final class PromiseTests {
             }
         }
         return d;
+    }
+
+    /** With as many runs and skiers as there can be, and all in one queue. */
+    private static void fullVillage() {
+        PommelTows x = new PommelTows();
+        x.setFlake(0, 0);
+        x.setPommels(2, 4);
+        for (int run = 0; run < 6; run++) {
+            x.run(2, run + 1);
+        }
+        for (int skier = 0; skier < 8; skier++) {
+            standing(x, skier + 1, 9, 2);
+        }
+        Check.same("full: until", x.until(7), 2);
+        Check.same("full: foresee", x.foresee(3, 6), 12);
+        Check.same("full: advise", x.advise(7, 12), 1);
+        Check.same("full: pass", x.pass(1), 4);
+        Check.same("full: choice", x.choice(7, 2), 5);
+        Check.same("full: flagged", x.count(5), 0);
+        Check.same("full: snow on the last", x.about(5, 2), 34);
+        queue("full: queue", x, 2, 4, 5, 6, 7, 0, 1, 2, 3);
+        Check.same("full: leave", x.leave(7) ? 1 : 0, 1);
+        queue("full: queue of seven", x, 2, 4, 5, 6, 0, 1, 2, 3);
+        Check.same("full: digest", x.digest(), digestOf(x));
+        Check.same("full: all rides", x.pass(60), 8 * 9 - 4 - 9);
+        Check.refused("full: run", x, STATE, () -> x.run(2, 1));
+        Check.refused("full: skier", x, STATE, () -> x.skier(1, 1));
     }
 
     private static void objectsStandAlone() {
