@@ -6,7 +6,7 @@ import java.util.List;
  * itself: with objects and lists, and with copies made anew for each look ahead.
  */
 public final class ModelTests {
-    private static final int OBJECTS = 600;
+    private static final int OBJECTS = 1000;
     private static final int CALLS = 512;
     private static final int METHODS = 22;
 
@@ -36,7 +36,9 @@ public final class ModelTests {
         Model model = new Model();
         // some objects seldom see hours, so that full rows and short coins come up too
         int hourly = next(4);
-        for (int i = 0; i < CALLS; i++) {
+        // a digest is a call too, and what a call beyond the last answers is free
+        boolean digests = object % 2 == 0;
+        for (int i = 0; i < (digests ? CALLS / 2 : CALLS); i++) {
             int method = nextMethod(hourly);
             int a = argument(method, 0);
             int b = argument(method, 1);
@@ -44,7 +46,9 @@ public final class ModelTests {
             String due = answer(() -> model.call(method, a, b));
             String got = answer(() -> call(village, method, a, b));
             Check.holds(call + " answered " + got + ", due is " + due + ": that", got.equals(due));
-            Check.same(call + ": digest", village.digest(), model.digest());
+            if (digests) {
+                Check.same(call + ": digest", village.digest(), model.digest());
+            }
             if (due.startsWith("throws")) {
                 thrown[method]++;
             } else {
