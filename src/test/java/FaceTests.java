@@ -4,7 +4,9 @@ import java.lang.reflect.Method;
 import java.lang.reflect.Modifier;
 import java.nio.file.Files;
 import java.nio.file.Path;
+import java.util.ArrayList;
 import java.util.Arrays;
+import java.util.List;
 import java.util.Set;
 import java.util.TreeSet;
 import java.util.regex.Matcher;
@@ -45,13 +47,19 @@ public final class FaceTests {
 
     public static void main(String[] args) throws IOException {
         face();
+        Path document = Path.of(args[1]);
+        if (Files.exists(document)) {
+            faceOfDocument(Files.readString(document));
+        } else {
+            System.out.println("the document is not there: the face is not compared with it");
+        }
         members();
         text(Files.readString(Path.of(args[0])));
         Check.end("FaceTests");
     }
 
     private static void face() {
-        Set<String> found = new TreeSet<>();
+        Set<String> found = Face.ofTheClass();
         Set<String> publicNames = new TreeSet<>();
         Set<String> otherNames = new TreeSet<>();
         for (Method method : PommelTows.class.getDeclaredMethods()) {
@@ -59,7 +67,6 @@ public final class FaceTests {
                 continue;
             }
             if (Modifier.isPublic(method.getModifiers())) {
-                found.add(told(method));
                 publicNames.add(method.getName());
             } else {
                 Check.holds(method + " is private", Modifier.isPrivate(method.getModifiers()));
@@ -81,17 +88,22 @@ public final class FaceTests {
         Check.same("public constructors", PommelTows.class.getConstructors().length, 1);
     }
 
-    private static String told(Method method) {
-        StringBuilder text = new StringBuilder();
-        text.append(method.getReturnType().getSimpleName()).append(' ').append(method.getName()).append('(');
-        for (int i = 0; i < method.getParameterCount(); i++) {
-            text.append(i == 0 ? "" : ",").append(method.getParameterTypes()[i].getSimpleName());
+    /** The list above is the document's, and each promise bears the signature of its call. */
+    private static void faceOfDocument(String document) {
+        Set<String> due = new TreeSet<>(Arrays.asList(FACE));
+        Set<String> face = declared(document, "(?m)^    public (\\w+ \\w+\\(.*);$");
+        Set<String> promised = declared(document, "(?m)^`(\\w+ \\w+\\([^`]*)`: ");
+        Check.holds("the document's face is " + face + ": that", due.equals(face));
+        Check.holds("the promises' signatures are " + promised + ": that", due.equals(promised));
+    }
+
+    private static Set<String> declared(String document, String pattern) {
+        Set<String> calls = new TreeSet<>();
+        Matcher rows = Pattern.compile(pattern).matcher(document);
+        while (rows.find()) {
+            calls.add(Face.told(rows.group(1)));
         }
-        text.append(')');
-        for (Class<?> thrown : method.getExceptionTypes()) {
-            text.append(' ').append(thrown.getSimpleName());
-        }
-        return text.toString();
+        return calls;
     }
 
     private static void members() {
@@ -104,6 +116,25 @@ public final class FaceTests {
                 Check.holds(field + " is no static state", !Modifier.isStatic(field.getModifiers()));
             }
         }
+        sizes();
+    }
+
+    /** Rule 11. */
+    private static void sizes() {
+        Class<?>[] insides = PommelTows.class.getDeclaredClasses();
+        Check.holds("at most twelve classes", insides.length + 1 <= 12);
+        List<Class<?>> classes = new ArrayList<>(Arrays.asList(insides));
+        classes.add(PommelTows.class);
+        for (Class<?> each : classes) {
+            int fields = 0;
+            for (Field field : each.getDeclaredFields()) {
+                fields += Modifier.isStatic(field.getModifiers()) ? 0 : 1;
+            }
+            Check.holds(each + " has at most twenty fields", fields <= 20);
+            for (Method method : each.getDeclaredMethods()) {
+                Check.holds(method + " takes at most seven", method.getParameterCount() <= 7);
+            }
+        }
     }
 
     private static void text(String program) {
@@ -112,6 +143,16 @@ public final class FaceTests {
             Matcher matcher = Pattern.compile(pattern).matcher(code);
             Check.holds("no " + pattern + " in the program", !matcher.find());
         }
+        // from the line that opens a method to the brace below its first letter
+        Matcher methods = Pattern.compile("(?ms)^( {4}| {8})\\w[^\n;=]*\\(.*?^\\1\\}$").matcher(code);
+        int seen = 0;
+        while (methods.find()) {
+            seen++;
+            String method = methods.group();
+            long lines = method.lines().count();
+            Check.holds(lines + " lines are short: " + method.lines().findFirst().orElse(""), lines <= 60);
+        }
+        Check.holds(seen + " methods were seen: enough", seen > 50);
         Matcher made = Pattern.compile("(?m)^ {8}.*\\bnew \\w+").matcher(code);
         while (made.find()) {
             String line = made.group();
