@@ -352,6 +352,11 @@ public final class PromiseTests {
         queue("leave: one left", x, 2, 2);
         Check.same("leave: the only one", x.leave(2) ? 1 : 0, 1);
         queue("leave: none left", x, 2);
+        for (int tow = 0; tow < 3; tow++) {
+            x.join(4, tow);
+            Check.same("leave: tow " + tow, x.leave(4) ? 1 : 0, 1);
+            queue("leave: tow " + tow, x, tow);
+        }
         for (int skier : new int[] {-1, 5, LOWEST, HIGHEST}) {
             Check.refused("leave: skier " + skier, x, INDEX, () -> x.leave(skier));
         }
